@@ -316,6 +316,8 @@ public final class CamsTest {
         due.is("the least number of three", x.camOf(3, 1), 1);
         Due.cut(x, 3, 7, 0, 7, 0, 7, 0);
         due.is("the same", x.camOf(3, 1), 0);
+        due.is("the same BLANK", x.camOf(3, 0), 0);
+        due.is("two BLANKS", x.blanks(), 2);
     }
 
     private static void smooth() {
@@ -329,6 +331,8 @@ public final class CamsTest {
         due.is("down", x.camOf(0, 2), 7);
         Due.cut(x, 0, 9, 0, 9, 0);
         due.is("most", x.camOf(0, 2), 9);
+        Due.cut(x, 0, 0, 8, 5, 3);
+        due.is("the first and the next", x.camOf(0, 2), 8);
         Due.cut(x, 0, 5, 5, 5, 5);
         due.is("flat", x.camOf(0, 2), 0);
         x.length(2);
