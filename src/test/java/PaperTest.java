@@ -197,16 +197,23 @@ public final class PaperTest {
             due.is("far y", x.see(0, far, false), -1);
         }
         due.refusals(x, 16, 0, 0, 0, 0, 0, 0);
-        everyCell(new CamFigures());
+        for (int cy = 0; cy < 10; cy++) {
+            everyCell(cy);
+        }
     }
 
-    private static void everyCell(CamFigures x) {
-        for (int cell = 0; cell < 1200; cell++) {
-            due.is("see", x.see(cell % 120, cell / 120, true), 1);
-            due.is("marks", x.marks(), cell + 1);
+    /** An object is good for 512 calls: so a row at a time. */
+    private static void everyCell(int cy) {
+        CamFigures x = new CamFigures();
+        for (int cx = 0; cx < 120; cx++) {
+            due.is("see", x.see(cx, cy, true), 1);
+            due.is("marks", x.marks(), cx + 1);
         }
         due.is("length", x.length(4), 8);
         due.paper("after length", x);
+        for (int cx = 0; cx < 120; cx++) {
+            due.is("marked after length", x.marked(cx, cy), 0);
+        }
     }
 
     private static void seeKeepsFirst() {
